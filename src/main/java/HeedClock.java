@@ -78,9 +78,6 @@ public final class HeedClock {
         if (!isWithin(letter, 0, 255)) {
             return BAD;
         }
-        if (tape.length >= Tape.MOST_BYTES) {
-            return FULL;
-        }
         return tape.append(letter);
     }
 
@@ -355,7 +352,7 @@ public final class HeedClock {
     }
 
     public int ask(int ear, int what) {
-        if (!now.hasEar(ear) || !isWithin(what, Asks.SIZE, Asks.MARK)) {
+        if (!now.hasEar(ear) || !isWithin(what, Asks.ASK_SIZE, Asks.ASK_MARK)) {
             return BAD;
         }
         return asks.answer(now, ear, what);
@@ -531,12 +528,15 @@ public final class HeedClock {
 
     /** THE TAPE, and what was told in the text that was read last. */
     private static final class Tape {
-        static final int MOST_BYTES = 120;
+        private static final int MOST_BYTES = 120;
         private static final int MISPLACED = 1, NOT_AS_TOLD = 2, TOO_MANY = 3;
         private static final int MOST_FIGURES = 2;
-        private static final int[] LAW_LEAST = {0}, LAW_MOST = {12};
-        private static final int[] EAR_LEAST = {1, 0, 0, 1}, EAR_MOST = {12, 3, 7, 8};
-        private static final int[] DOING_LEAST = {0, 1, 0}, DOING_MOST = {99, 40, 99};
+        private static final int[] LAW_LEAST = {0};
+        private static final int[] LAW_MOST = {12};
+        private static final int[] EAR_LEAST = {1, 0, 0, 1};
+        private static final int[] EAR_MOST = {12, 3, 7, 8};
+        private static final int[] DOING_LEAST = {0, 1, 0};
+        private static final int[] DOING_MOST = {99, 40, 99};
         private static final int MOST_NUMBERS = 1 + 4 * House.MOST_EARS + 3 * House.MOST_DOINGS;
 
         private final int[] bytes = new int[MOST_BYTES];
@@ -550,6 +550,9 @@ public final class HeedClock {
         private int told = 0;
 
         int append(int letter) {
+            if (length >= MOST_BYTES) {
+                return FULL;
+            }
             bytes[length] = letter;
             length++;
             return length;
@@ -924,6 +927,9 @@ public final class HeedClock {
         }
 
         void passQuarter() {
+            if (quarter >= LAST_QUARTER) {
+                return;
+            }
             int goes = partsOf(attending(), quarter);
             growOlder(goes, SUNS_PARTS);
             parts += goes;
@@ -933,9 +939,11 @@ public final class HeedClock {
 
         /** Whatever came behind the quarter was taken back before, so all are where they were in it. */
         void takeQuarterBack() {
+            if (quarter <= 0) {
+                return;
+            }
             quarter--;
-            int went = parts - goneBy[quarter];
-            growOlder(-went, -SUNS_PARTS);
+            growOlder(goneBy[quarter] - parts, -SUNS_PARTS);
             parts = goneBy[quarter];
         }
 
@@ -945,9 +953,13 @@ public final class HeedClock {
             }
         }
 
-        /** What the clock had gone as a quarter began, that is over, or this one. */
-        int partsBehind(int pastQuarter) {
-            return goneBy[pastQuarter];
+        boolean isOver(int someQuarter) {
+            return someQuarter >= 0 && someQuarter < quarter;
+        }
+
+        /** How many parts the clock went in a quarter that is over. */
+        int partsGoneIn(int pastQuarter) {
+            return isOver(pastQuarter) ? goneBy[pastQuarter + 1] - goneBy[pastQuarter] : 0;
         }
     }
 
@@ -975,20 +987,14 @@ public final class HeedClock {
 
         static int quartersTillShown(House house, int v) {
             int set = house.attending();
+            int parts = house.parts;
             for (int n = 0; n <= MOST_AHEAD; n++) {
-                if (shownAfter(house, set, n) >= v) {
+                if (parts / House.PARTS_SHOWN_AS_ONE >= v) {
                     return n;
                 }
+                parts += house.partsOf(set, house.quarter + n);
             }
             return NONE;
-        }
-
-        /** What the clock has gone behind so many quarters in all, be they over or to come. */
-        private static int partsBehind(House house, int quarters) {
-            if (quarters <= house.quarter) {
-                return house.partsBehind(quarters);
-            }
-            return partsAfter(house, house.attending(), quarters - house.quarter);
         }
 
         private static int partsNeeded(House house, int doing) {
@@ -996,11 +1002,14 @@ public final class HeedClock {
         }
 
         static int doneOn(House house, int doing) {
-            int goal = partsBehind(house, house.begins[doing]) + partsNeeded(house, doing);
+            int set = house.attending();
+            int needed = partsNeeded(house, doing);
+            int gone = 0;
             for (int quarter = house.begins[doing]; quarter <= house.quarter + MOST_AHEAD; quarter++) {
-                if (partsBehind(house, quarter) >= goal) {
+                if (gone >= needed) {
                     return quarter;
                 }
+                gone += house.isOver(quarter) ? house.partsGoneIn(quarter) : house.partsOf(set, quarter);
             }
             return NONE;
         }
@@ -1016,13 +1025,15 @@ public final class HeedClock {
             return late;
         }
 
+        /** Goes back from the quarter that it is due by, till what comes between is enough. */
         static int latestBegin(House house, int doing) {
             int set = house.attending();
-            int left = house.dues[doing] - house.quarter;
-            int most = partsAfter(house, set, left) - partsNeeded(house, doing);
-            for (int n = Math.min(left, MOST_AHEAD); n >= 0; n--) {
-                if (partsAfter(house, set, n) <= most) {
-                    return n;
+            int needed = partsNeeded(house, doing);
+            int gone = 0;
+            for (int quarter = house.dues[doing] - 1; quarter >= house.quarter; quarter--) {
+                gone += house.partsOf(set, quarter);
+                if (gone >= needed) {
+                    return quarter - house.quarter;
                 }
             }
             return NONE;
@@ -1078,11 +1089,12 @@ public final class HeedClock {
 
         /** Each heed is tried in the ear's own place, which has its own again then. */
         static int heedsThatGoSo(House house, int ear, Rows rows, int row, int i, int n) {
+            int set = house.attending();
             int own = house.heeds[ear];
             int heeds = 0;
             for (int heed = 1; heed <= MOST_HEED; heed++) {
                 house.heeds[ear] = heed;
-                if (goesSo(house, house.attending(), rows, row, i, n)) {
+                if (goesSo(house, set, rows, row, i, n)) {
                     heeds |= 1 << heed - 1;
                 }
             }
@@ -1153,6 +1165,9 @@ public final class HeedClock {
         }
 
         void takeBackLatest(House house) {
+            if (kept <= 0) {
+                return;
+            }
             kept--;
             int before = befores[kept];
             switch (deeds[kept]) {
@@ -1174,7 +1189,7 @@ public final class HeedClock {
 
     /** ASKS of an EAR, by BODIES, and THE TRACE that they leave. */
     private static final class Asks {
-        static final int SIZE = 0, MARK = 1;
+        static final int ASK_SIZE = 0, ASK_MARK = 1;
         private static final int MOST_TRACED = 16;
         private static final int MOST_DEEP = 16;
         /** By KIND: the BODY told for it; 0: it has that of the nearest KIND. */
@@ -1209,10 +1224,10 @@ public final class HeedClock {
             if (!Kinds.isKind(kind)) {
                 return 0;
             }
-            return what == SIZE ? SIZE_BODIES[kind] : MARK_BODIES[kind];
+            return what == ASK_SIZE ? SIZE_BODIES[kind] : MARK_BODIES[kind];
         }
 
-        /** What a body gives. No ask comes near MOST_DEEP: a widower's size, the deepest, is 6 deep. */
+        /** What a body gives. No ask comes near MOST_DEEP: a widower's size, the deepest, is 5 deep. */
         private int run(int body, int depth) {
             if (depth >= MOST_DEEP) {
                 return 0;
@@ -1223,7 +1238,7 @@ public final class HeedClock {
                 case 10:
                     return heedAsked;
                 case 11:
-                    return run(10, deeper) + begin(MARK, deeper);
+                    return run(10, deeper) + begin(ASK_MARK, deeper);
                 case 12:
                     return -run(11, deeper);
                 case 13:
@@ -1237,7 +1252,7 @@ public final class HeedClock {
                 case 22:
                     return run(21, deeper) - 1000;
                 case 23:
-                    return run(20, deeper) - begin(SIZE, deeper);
+                    return run(20, deeper) - begin(ASK_SIZE, deeper);
                 case 24:
                     return 2 * run(21, deeper);
                 default:
