@@ -11,6 +11,7 @@ public final class ActsTest {
         promise12Wool();
         promise13UndoEach();
         promise13UndoForgets();
+        promise13UndoForgetsButKnowsWhose();
         promise13UndoManyQuarters();
         promise14Ear();
         promise14EarListens();
@@ -155,6 +156,28 @@ public final class ActsTest {
         checks.due("so it stays", clock.ear(0, 1), 1);
     }
 
+    private static void promise13UndoForgetsButKnowsWhose() {
+        HeedClock clock = Houses.of("c0;p1,0,0,8;p1,1,0,8;p1,2,0,8;");
+        for (int i = 0; i < 10; i++) {
+            clock.go(0, 3 - 3 * (i % 2));
+            clock.hush(1, 1 - i % 2);
+            clock.go(2, 3 - i % 2);
+        }
+        checks.due("24 of 30", clock.count(6), 24);
+        for (int i = 9; i >= 2; i--) {
+            checks.due("2 is where it went", clock.ear(2, 1), 3 - i % 2);
+            clock.undo();
+            checks.due("2 is where it was", clock.ear(2, 1), 2 + i % 2);
+            checks.due("1 is hushed or not", clock.ear(1, 2), 1 - i % 2);
+            clock.undo();
+            checks.due("1 is as it was", clock.ear(1, 2), i % 2);
+            checks.due("0 is where it went", clock.ear(0, 1), 3 - 3 * (i % 2));
+            clock.undo();
+            checks.due("0 is where it was", clock.ear(0, 1), 3 * (i % 2));
+        }
+        checks.due("none more", clock.undo(), STATE);
+    }
+
     private static void promise13UndoManyQuarters() {
         HeedClock clock = Houses.of(Houses.ALL_SORTS);
         clock.quarters(20);
@@ -226,6 +249,9 @@ public final class ActsTest {
         checks.due("12 in all", clock.clock(2), 12);
         clock.hush(2, 1);
         checks.due("a hushed one does not silence", clock.clock(2), 7 + 5 + 3 + 1);
+        HeedClock last = Houses.of("c0;p12,0,0,8;w5,0,0,8;");
+        checks.due("silenced by who is told first", last.ear(1, 4), 0);
+        checks.due("12 of the first alone", last.clock(2), 12);
         HeedClock two = Houses.of("c0;w12,0,0,8;w12,0,0,8;");
         checks.due("widowers do not silence each other", two.clock(2), 24);
     }

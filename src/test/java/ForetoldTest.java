@@ -24,6 +24,7 @@ public final class ForetoldTest {
         promise26OddsRefused();
         promise27Image();
         promise28Restore();
+        promise28RestoreBringsAllNumbersBack();
         nothingChanges();
         checks.end();
     }
@@ -67,6 +68,10 @@ public final class ForetoldTest {
         checks.due("3 now", clock.whenShows(3), 0);
         checks.due("2, or more, now", clock.whenShows(2), 0);
         checks.due("a house of nobody", Houses.of("c0;").whenShows(1), NONE);
+        HeedClock seldom = Houses.of("c0;p12,0,6,1;");
+        seldom.quarters(4);
+        checks.due("quarter 6 is behind 3", seldom.whenShows(1), 3);
+        checks.due("quarter 14 is behind 11", seldom.whenShows(2), 11);
     }
 
     private static void promise18Done() {
@@ -144,6 +149,8 @@ public final class ForetoldTest {
         checks.due("98", edge.latest(0), 98);
         checks.due("whenever it begins as told", edge.latest(1), 9);
         checks.due("due at once", edge.latest(2), NONE);
+        HeedClock scant = Houses.of("c0;p11,0,0,8;x0,1,9;");
+        checks.due("11 are not enough, 22 are", scant.latest(0), 7);
         HeedClock still = Houses.of("c0;p12,0,7,1;x0,1,20;");
         checks.due("the last quarter is 15", still.latest(0), 15);
     }
@@ -172,7 +179,12 @@ public final class ForetoldTest {
         checks.due("which, none", clock.toHush(10, 8, 1), NONE);
         checks.due("all that give", clock.toHush(11, 99, 0), 4);
         checks.due("0 1 2 3", clock.toHush(11, 99, 1), 15);
+        checks.due("now", clock.toHush(11, 0, 0), 0);
+        checks.due("not now", clock.toHush(10, 0, 0), NONE);
         checks.due("a house of nobody", Houses.of("c0;").toHush(0, 99, 0), 0);
+        HeedClock fewer = Houses.of("c0;p3,0,0,8;p3,0,0,8;p6,0,0,8;");
+        checks.due("one, though two others are told first", fewer.toHush(6, 12, 0), 1);
+        checks.due("the third", fewer.toHush(6, 12, 1), 4);
     }
 
     /** To hush one of the others would let the widowers give again. */
@@ -207,6 +219,11 @@ public final class ForetoldTest {
         clock.hush(0, 1);
         checks.due("those there stay as they are: hushed", clock.toCall(18, 12, 0), NONE);
         checks.due("17 of the others", clock.toCall(17, 12, 1), 14);
+        checks.due("now", clock.toCall(0, 0, 0), 0);
+        checks.due("not now", clock.toCall(1, 0, 0), NONE);
+        HeedClock fewer = Houses.of("c0;p3,1,0,8;p3,1,0,8;p6,1,0,8;");
+        checks.due("one, though two others are told first", fewer.toCall(6, 12, 0), 1);
+        checks.due("the third", fewer.toCall(6, 12, 1), 4);
         HeedClock widowed = Houses.of("c0;w12,0,0,8;p12,1,0,8;p1,1,0,8;");
         checks.due("to call the first would bring nothing", widowed.toCall(13, 12, 1), 4);
     }
@@ -429,6 +446,28 @@ public final class ForetoldTest {
         checks.due("quarter 4 again", clock.count(3), 4);
         checks.due("room 0 again", clock.ear(0, 1), 0);
         checks.due("nothing to undo again", clock.count(6), 0);
+    }
+
+    private static void promise28RestoreBringsAllNumbersBack() {
+        HeedClock clock = Houses.of("c0;p12,0,2,3;p6,1,0,8;x1,2,50;");
+        clock.quarters(3);
+        clock.image(0);
+        int done = clock.done(0);
+        int latest = clock.latest(0);
+        Houses.read(clock, "c0;p12,0,6,1;p6,1,0,8;x9,9,9;");
+        clock.quarters(9);
+        clock.restore(0);
+        checks.due("lived by the clock", clock.ear(0, 5), 12);
+        checks.due("lived by the sun", clock.ear(1, 5), 36);
+        checks.due("listens in 3", clock.ear(0, 3), 1);
+        checks.due("in 2, 3, 4 of eight", clock.ahead(16), 12 + 6 * 12);
+        checks.due("24 from 1 on", clock.done(0), 4);
+        checks.due("done as before", done, 4);
+        checks.due("24 by 50", clock.latest(0), latest);
+        checks.due("43 and 44 are the last two", latest, 40);
+        clock.quarters(1);
+        clock.undo();
+        checks.due("undone to the image", clock.clock(0), 12);
     }
 
     private static void nothingChanges() {

@@ -240,6 +240,9 @@ public final class RandomRunsTest {
             }
             case 30 -> check("status", clock.status(), model.status());
             case 31 -> {
+                for (int what = 0; what <= 5; what++) {
+                    check("ear", clock.ear(ear, what), model.ear(ear, what));
+                }
                 int what = near(0, 5);
                 check("ear", clock.ear(ear, what), model.ear(ear, what));
             }
