@@ -77,6 +77,8 @@ public final class FaceTest {
             }
             for (Method method : inside.getDeclaredMethods()) {
                 checks.holds(method + " takes seven parameters at most", method.getParameterCount() <= 7);
+                checks.holds(method + " has a name of its own", !(" " + METHODS + " ").matches(
+                        ".* " + method.getName() + "[0-9] .*"));
             }
         }
     }

@@ -170,7 +170,7 @@ public final class TextBoundsTest {
         faulty("c1;" + "p1,0,0,1;".repeat(6) + "p0", 57, 3);
     }
 
-    /** An ear behind a doing cannot stand there, even if it is one too many as well; so can no letter of another use. */
+    /** An ear behind a doing cannot stand there, even if it is one too many as well. */
     private static void ofOneTokenTheLeast() {
         String six = "c1;" + "p1,0,0,1;".repeat(6);
         faulty(six + "x0,1,0;p", 64, 1);
