@@ -6,6 +6,8 @@ import java.nio.file.Path;
 import java.util.Arrays;
 import java.util.Set;
 import java.util.TreeSet;
+import java.util.regex.Matcher;
+import java.util.regex.Pattern;
 
 /** The public face of the document, no more and no less, and rules of LANGUAGE.md that can be seen in the text. */
 public final class FaceTest {
@@ -14,13 +16,19 @@ public final class FaceTest {
             + "restore1 kind1 as2 ask2 trace1 count1 status0";
     private static final Set<String> FORBIDDEN_WORDS = Set.of("throw", "try", "catch", "synchronized", "assert",
             "package", "var", "Object", "Exception", "public static void");
+    private static final Set<String> LIBRARY = Set.of("Arrays.fill", "System.arraycopy", "Integer.bitCount",
+            "Long.bitCount", "Long.numberOfTrailingZeros", "Math.max");
+    private static final int MOST_LINES = 60;
     private static final Checks checks = new Checks("face");
 
     public static void main(String[] args) throws Exception {
         constants();
         methods();
         classesInside();
-        textKeepsTheRules(Files.readString(Path.of("src/main/java/HeedClock.java")));
+        String text = Files.readString(Path.of("src/main/java/HeedClock.java"));
+        textKeepsTheRules(text);
+        libraryIsAsListed(text);
+        methodsAreShort(text);
         checks.end();
     }
 
@@ -94,5 +102,24 @@ public final class FaceTest {
         checks.holds("one import", code.split("\\bimport\\b", -1).length == 2);
         checks.holds("of Arrays", code.contains("import java.util.Arrays;"));
         checks.holds("plain signs", text.chars().allMatch(sign -> sign == '\n' || sign >= ' ' && sign < 127));
+    }
+
+    private static void libraryIsAsListed(String text) {
+        Matcher calls = Pattern.compile("\\b(Arrays|System|Integer|Long|Math|String|Character)\\.\\w+").matcher(text);
+        while (calls.find()) {
+            checks.holds(calls.group() + " is listed", LIBRARY.contains(calls.group()));
+        }
+    }
+
+    /** A method ends at the first brace that stands as far in as its head. */
+    private static void methodsAreShort(String text) {
+        String head = "^( {4}| {8})(\\w[^\\n;=]*\\([^\\n;=]*\\)) \\{$";
+        Matcher methods = Pattern.compile("(?ms)" + head + "(.*?)^\\1\\}$").matcher(text);
+        int found = 0;
+        while (methods.find()) {
+            found++;
+            checks.holds(methods.group(2) + " is short", methods.group(3).lines().count() <= MOST_LINES);
+        }
+        checks.holds("methods were found: " + found, found >= METHODS.split(" ").length);
     }
 }
